@@ -119,9 +119,9 @@ public final class SnowHouse {
 
     public SnowHouse() {
         tape = new byte[TAPE];
-        reader = new Reader();
         story = new Story();
         draft = new Story();
+        reader = new Reader(tape, draft);
         breakfast = new Breakfast();
         evening = new Evening(true);
         finder = new Finder();
@@ -160,7 +160,7 @@ public final class SnowHouse {
     }
 
     public int text() {
-        boolean told = reader.reads(tape, taped, draft);
+        boolean told = reader.reads(taped, draft);
         taped = 0;
         if (!told) {
             return NONE;
@@ -682,7 +682,7 @@ public final class SnowHouse {
      */
     private static final class Reader {
         private final int[] own = new int[OWN_COUNT];
-        private byte[] tape;
+        private final byte[] tape;
         private int length;
         private int at;
         private Story story;
@@ -693,9 +693,9 @@ public final class SnowHouse {
         int fault;
         int place;
 
-        Reader() {
-            tape = new byte[0];
-            story = new Story();
+        Reader(byte[] from, Story into) {
+            tape = from;
+            story = into;
             place = NONE;
             int word = 0;
             for (int i = 0; i < OWN_WORDS.length(); i++) {
@@ -708,9 +708,8 @@ public final class SnowHouse {
             }
         }
 
-        boolean reads(byte[] from, int bytes, Story into) {
-            tape = from;
-            length = Math.min(bytes, from.length);
+        boolean reads(int bytes, Story into) {
+            length = Math.min(bytes, tape.length);
             story = into;
             story.clear();
             fault = 0;

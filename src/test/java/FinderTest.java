@@ -16,6 +16,8 @@ public final class FinderTest {
         could();
         least();
         unfair();
+        firstDead();
+        eachAlone();
         refused();
         claims();
         KIT.close();
@@ -96,6 +98,47 @@ public final class FinderTest {
         KIT.due("never known", x.least(1, false), -1);
         KIT.due("never known", x.least(1, true), -1);
         KIT.due("not fair", x.fair(1), 0);
+    }
+
+    /** The first person, too, counts for nobody once it is dead: its eyes are closed. */
+    private static void firstDead() {
+        SnowHouse x = Kit.told("room a;room b;door a b;who v in a;who w in b;who p in a;who q in b;thing k in a;"
+            + "take p k when all;kill p v k when all;go p b when dead v;kill p w k when at p b;"
+            + "go q a when minute=2;go v b when minute=0;go v a when minute=1;says q a 0 0;says p b 1 1;says w a 1 1;");
+        KIT.due("deeds", x.run(5), 2);
+        KIT.due("v died in minute", x.deed(0, 3), 1);
+        KIT.due("w died in minute", x.deed(1, 3), 3);
+        span(x, 1, 1, 0, 4);
+        span(x, 1, 1 + 4, 3, 3);
+        KIT.due("v tells nothing", x.could(1, 1, 2), 1 + 4 + 8);
+        // v saw q in b in minute 0, w did, too; both are dead at the end
+        claim(x, 0, 1, -1, -1);
+        claim(x, 1, 1, -1, -1);
+        claim(x, 2, 2, 3, 1);
+    }
+
+    /** Each question answers by itself, whatever was asked ahead of it. */
+    private static void eachAlone() {
+        for (int order = 0; order < 3; order++) {
+            SnowHouse x = Kit.told(MURDER + "room attic;who eve in attic;");
+            x.run(4);
+            x.begin(4, 0);
+            if (order == 0) {
+                KIT.due("fair", x.fair(1), 0);
+            }
+            x.fairest(0);
+            KIT.due("fair", x.fair(1), 0);
+            x.run(4);
+            if (order == 1) {
+                KIT.due("fair", x.fair(1), 1);
+            }
+            KIT.due("could", x.could(1, CAT + DAN, 7), ANN);
+            KIT.due("least", x.least(1, true), CAT + DAN);
+            x.anew();
+            x.run(4);
+            KIT.due("fair", x.fair(1), 0);
+            KIT.due("least", x.least(1, true), -1);
+        }
     }
 
     private static void refused() {

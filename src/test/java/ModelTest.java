@@ -154,6 +154,9 @@ public final class ModelTest {
     }
 
     private static void found(SnowHouse x, Model model, Random random) {
+        for (int v = 8; v >= 0; v--) {
+            due("fair", x.fair(v), model.fair(v));
+        }
         for (int v = -1; v < 9; v++) {
             for (int i = 0; i < 12; i++) {
                 int set = i == 0 ? -1 : random.nextInt(i < 6 ? 32 : 260);
