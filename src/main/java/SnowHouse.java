@@ -1027,12 +1027,16 @@ public final class SnowHouse {
             return minute;
         }
 
-        /** Goes on to the next token. All that is asked of the present one is asked before. */
+        /**
+         * Goes on to the next token. All that is asked of the present one is asked before. Whether
+         * a blank lacks is seen at the first byte, and so ahead of a letter or digit too many.
+         */
         private void step() {
             if (fault != 0) {
                 return;
             }
             int behind = at;
+            int before = signAt(at - 1);
             while (at < length && (tape[at] == ' ' || tape[at] == '\n')) {
                 at++;
             }
@@ -1044,6 +1048,8 @@ public final class SnowHouse {
             } else if (sign != LETTER && sign != DIGIT) {
                 token = sign;
                 at++;
+            } else if (start == behind && (before == LETTER || before == DIGIT)) {
+                fail(FAULT_TEXT, start);
             } else {
                 int most = sign == LETTER ? LETTERS : DIGITS;
                 for (; at < length && signAt(at) == sign; at++) {
@@ -1055,10 +1061,6 @@ public final class SnowHouse {
                         ? (value << LETTER_BITS) + tape[at] - 'a' + 1 : value * 10 + tape[at] - '0';
                 }
                 token = sign == LETTER ? wordToken() : NUMBER;
-                int before = start == behind ? signAt(start - 1) : NONE;
-                if (before == LETTER || before == DIGIT) {
-                    fail(FAULT_TEXT, start);
-                }
             }
         }
 

@@ -371,17 +371,17 @@ final class Model {
                         || number && text.charAt(j) >= '0' && text.charAt(j) <= '9')) {
                         j++;
                     }
-                    int most = word ? 6 : 4;
-                    if (j - i > most) {
-                        tokens.add(new Token("?", i + most, true));
-                        return;
-                    }
                     if (i > 0 && Character.isLetterOrDigit(text.charAt(i - 1)) && text.charAt(i - 1) < 128) {
                         char before = text.charAt(i - 1);
                         if (before >= 'a' && before <= 'z' || before >= '0' && before <= '9') {
                             tokens.add(new Token("?", i, true));
                             return;
                         }
+                    }
+                    int most = word ? 6 : 4;
+                    if (j - i > most) {
+                        tokens.add(new Token("?", i + most, true));
+                        return;
                     }
                 }
                 tokens.add(new Token(text.substring(i, j), i, false));

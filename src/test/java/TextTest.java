@@ -142,6 +142,27 @@ public final class TextTest {
         KIT.faulty(HOUSE + "says ann lib ^ann 2;", 1);
         KIT.faulty(HOUSE + "says ann lib 1 ^;", 1);
         KIT.faulty(HOUSE + "says ann lib 1234^5 2;", 1);
+        besideAndLong();
+    }
+
+    /** A word or number beside another one is told at its first byte, however long it is. */
+    private static void besideAndLong() {
+        KIT.faulty("room a;who b in a;says b a^12345 ", 1);
+        KIT.faulty(HOUSE + "says ann lib^12345 2;", 1);
+        KIT.faulty(HOUSE + "says ann lib 12^abcdefg;", 1);
+        KIT.faulty(HOUSE + "says ann lib 1 12^abcdefg;", 1);
+        KIT.faulty(HOUSE + "says ann lib ^180abcdefg;", 4);
+        KIT.faulty(HOUSE + "says ann ^bob12345;", 3);
+        KIT.faulty("room^12345;", 1);
+        KIT.faulty("room abcdef^12345;", 1);
+        KIT.faulty("room abcdef^g12345;", 1);
+        KIT.faulty("1234^5abcdefg", 1);
+        KIT.faulty("^1234abcdefg", 1);
+        KIT.faulty(HOUSE + "wipe ann when all^12345", 1);
+        KIT.faulty(HOUSE + "wipe ann when 1234^abcdefg", 1);
+        KIT.faulty(HOUSE + "wipe ann when 1=1^abcdefg", 1);
+        KIT.faulty(HOUSE + "wipe ann when 1=1 abcdef^g", 1);
+        KIT.faulty(HOUSE + "wipe ann when 1=1;abcdef^g", 1);
     }
 
     private static void names() {
