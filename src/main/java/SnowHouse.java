@@ -1144,7 +1144,7 @@ public final class SnowHouse {
                     if (top >= 0 && (stack[top] != 0) == (kind == OR)) {
                         at = of;
                     } else {
-                        top--;
+                        top = Math.max(top - 1, NONE);
                     }
                 } else if (kind == NOT) {
                     if (top >= 0) {

@@ -1,12 +1,20 @@
-/** What the tests share: feeding a text, and counting the answers that are not due. */
+import java.lang.reflect.InvocationTargetException;
+import java.lang.reflect.Method;
+import java.util.Arrays;
+import java.util.Comparator;
+import java.util.function.IntUnaryOperator;
+
+/** What the tests share: feeding a text, running named cases, counting the answers that are not due. */
 final class Kit {
     private int wrong;
+    private int cases;
+    private String about = "";
 
     void due(String call, long got, long want) {
         if (got != want) {
             wrong++;
             if (wrong <= 40) {
-                System.out.println(call + " answered " + got + ", due is " + want);
+                System.out.println(about + call + " answered " + got + ", due is " + want);
             }
         }
     }
@@ -15,9 +23,37 @@ final class Kit {
         due(call, got ? 1 : 0, want ? 1 : 0);
     }
 
+    /** What is asked with 0, 1, 2 .. and the answers due. */
+    void row(String call, IntUnaryOperator got, int... want) {
+        for (int i = 0; i < want.length; i++) {
+            due(call + " [" + i + "]", got.applyAsInt(i), want[i]);
+        }
+    }
+
+    /** Runs the cases of a class by their names: each method that begins with "promise" is one. */
+    void cases(Class<?> of) throws IllegalAccessException {
+        Method[] methods = of.getDeclaredMethods();
+        Arrays.sort(methods, Comparator.comparing(Method::getName));
+        for (Method method : methods) {
+            if (method.getName().startsWith("promise")) {
+                about = method.getName() + ": ";
+                cases++;
+                try {
+                    method.invoke(null);
+                } catch (InvocationTargetException thrown) {
+                    wrong++;
+                    System.out.println(about + "threw " + thrown.getCause());
+                }
+            }
+        }
+        about = "";
+        due("there are cases of " + of, cases > 0, true);
+    }
+
     /** Ends the test: with exit code 1 if an answer was wrong. */
     void close() {
-        System.out.println(wrong == 0 ? "all answers are as due" : wrong + " answers are not as due");
+        String told = cases == 0 ? "" : cases + " cases: ";
+        System.out.println(told + (wrong == 0 ? "all answers are as due" : wrong + " answers are not as due"));
         if (wrong != 0) {
             System.exit(1);
         }
@@ -56,6 +92,22 @@ final class Kit {
         SnowHouse x = new SnowHouse();
         text(x, text);
         return x;
+    }
+
+    /** As told, and an evening of so many minutes let go. */
+    static SnowHouse ran(String text, int minutes) {
+        SnowHouse x = told(text);
+        x.run(minutes);
+        return x;
+    }
+
+    /** A statement so many times, with a, b, c .. for each # in it. */
+    static String many(String statement, int times) {
+        StringBuilder all = new StringBuilder();
+        for (int i = 0; i < times; i++) {
+            all.append(statement.replace('#', (char) ('a' + i)));
+        }
+        return all.toString();
     }
 
     /** A text is whole: so many statements. */
