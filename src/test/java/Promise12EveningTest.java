@@ -186,8 +186,8 @@ public final class Promise12EveningTest {
     }
 
     static void promise12_go_throughTheDoorThatLeadsThere_aheadOfALesserNumber() {
-        String text = "room a;room b;room c;door a b;door b c;door a c;who p in #;go p c when minute=0;go p b when minute=1;"
-            + "go p a when minute=2;";
+        String text = "room a;room b;room c;door a b;door b c;door a c;who p in #;go p c when minute=0;"
+            + "go p b when minute=1;go p a when minute=2;";
         was(text.replace('#', 'a'), 0, 2, 1, 0);
         was(text.replace('#', 'b'), 0, 2, 1, 0);
     }
@@ -214,7 +214,8 @@ public final class Promise12EveningTest {
 
     static void promise12_go_toTheFirstRoom_byTheFewestDoorsToo() {
         // from d three doors lead there by b, and two by c
-        was("room a;room b;room c;room d;room e;door d b;door b e;door e a;door d c;door c a;who p in d;go p a when all;",
+        was("room a;room b;room c;room d;room e;door d b;door b e;door e a;door d c;door c a;who p in d;"
+            + "go p a when all;",
             0, 2, 0, 0);
     }
 
@@ -708,7 +709,8 @@ public final class Promise12EveningTest {
     }
 
     static void promise12_sum_mood_ofAnyOne_asItIsThen() {
-        String text = "room a;who p in a;who q in a;feel p 2 when all;feel q mood p when all;feel p mood q when minute=1;";
+        String text = "room a;who p in a;who q in a;feel p 2 when all;feel q mood p when all;"
+            + "feel p mood q when minute=1;";
         mood(text, 0, 2, 6, 8);
         mood(text, 1, 2, 8, 16);
     }

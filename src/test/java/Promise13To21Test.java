@@ -258,8 +258,8 @@ public final class Promise13To21Test {
     }
 
     static void promise19_trace_wipedInMinute0AndInMinute179() {
-        SnowHouse x = Kit.ran("room a;who p in a;who q in a;thing t in a;take p t when minute=0;lay p t when minute=179;"
-            + "wipe q when minute=0 or minute=179;", 180);
+        SnowHouse x = Kit.ran("room a;who p in a;who q in a;thing t in a;take p t when minute=0;"
+            + "lay p t when minute=179;wipe q when minute=0 or minute=179;", 180);
         KIT.row("wiped", k -> x.trace(k, 5), 0, 179, -1);
         KIT.row("left", k -> x.trace(k, 0), 0, 179, -1);
     }
@@ -304,8 +304,8 @@ public final class Promise13To21Test {
     }
 
     static void promise19_trace_inTheOrderInWhichTheyWereLeft() {
-        SnowHouse x = Kit.ran("room a;who p in a;who q in a;thing t in a;thing u in a;take q u when all;take p t when all;"
-            + "lay p t when all;", 2);
+        SnowHouse x = Kit.ran("room a;who p in a;who q in a;thing t in a;thing u in a;take q u when all;"
+            + "take p t when all;lay p t when all;", 2);
         KIT.row("who", k -> x.trace(k, 3), 0, 1, 0, -1);
         KIT.row("minute", k -> x.trace(k, 0), 0, 0, 1, -1);
     }

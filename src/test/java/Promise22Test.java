@@ -80,8 +80,8 @@ public final class Promise22Test {
     }
 
     static void promise22_needed_withAnotherThing_is0() {
-        SnowHouse x = Kit.ran("room a;who p in a;who q in a;thing k in a;thing l in a;take p k when all;take p l when all;"
-            + "kill p q k when all;kill p q l when all;", 6);
+        SnowHouse x = Kit.ran("room a;who p in a;who q in a;thing k in a;thing l in a;take p k when all;"
+            + "take p l when all;kill p q k when all;kill p q l when all;", 6);
         KIT.due("killed with k", x.deed(0, 2), 0);
         KIT.row("needed", rule -> x.needed(rule, 0), 0, 0, 0, 0);
     }

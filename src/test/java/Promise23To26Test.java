@@ -211,8 +211,8 @@ public final class Promise23To26Test {
     }
 
     static void promise24_could_seenByOneNowAndByAnotherThen_isCleared() {
-        String text = "room a;room b;room c;door b c;who p in a;who v in a;who r in b;who s in b;who t in c;thing k in a;"
-            + "take p k when all;kill p v k when all;go s c when minute=2;";
+        String text = "room a;room b;room c;door b c;who p in a;who v in a;who r in b;who s in b;who t in c;"
+            + "thing k in a;take p k when all;kill p v k when all;go s c when minute=2;";
         could(Kit.ran(text, 4), 1, 4, 1 + 4 + 8 + 16);
         could(Kit.ran(text, 4), 1, 16, 1 + 4 + 8 + 16);
         could(Kit.ran(text, 4), 1, 4 + 16, 1 + 4 + 16);
@@ -285,8 +285,8 @@ public final class Promise23To26Test {
 
     static void promise24_could_seenWhereItLiesDead_inTheSpansLastMinuteAlone_isNotCleared() {
         // t and u sit together in b; if they come in minute 1, behind the deed, u sees t there
-        String text = "room a;room b;door a b;who v in a;who p in a;who t in b;who u in b;thing k in a;take p k when all;"
-            + "kill p v k when all;go t a when minute=#;go u a when minute=#;";
+        String text = "room a;room b;door a b;who v in a;who p in a;who t in b;who u in b;thing k in a;"
+            + "take p k when all;kill p v k when all;go t a when minute=#;go u a when minute=#;";
         could(Kit.ran(text.replace("#", "9"), 4), 0, 8, 2 + 8);
         could(Kit.ran(text.replace("#", "1"), 4), 0, 8, 2 + 4 + 8);
     }

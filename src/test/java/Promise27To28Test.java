@@ -7,8 +7,8 @@ public final class Promise27To28Test {
         + "take ann knife when all;go ann lib when not has ann knife;go ann din when has ann knife;"
         + "kill ann bob knife when all;";
     /** p leaves a for b in minute 2; q and r are in b, s and t in a. */
-    private static final String MEETING = "room a;room b;door a b;who p in a;who q in b;who r in b;who s in a;who t in a;"
-        + "go p b when minute=2;";
+    private static final String MEETING = "room a;room b;door a b;who p in a;who q in b;who r in b;who s in a;"
+        + "who t in a;go p b when minute=2;";
     private static final int[] NO_CLAIM = {-1, 1, 2, 12, 32, Integer.MIN_VALUE, Integer.MAX_VALUE};
 
     public static void main(String[] args) throws Exception {

@@ -93,8 +93,8 @@ public final class Promise29To30Test {
 
     static void promise29_spare_allDeeds_notOneAlone() {
         // without the second rule q lives, but r dies all the same; without the first both live
-        SnowHouse x = Kit.ran("room a;room b;door a b;who p in a;who q in a;who r in b;thing k in a;wipe p when not all;"
-            + "kill p q k when all;take p k when all;kill p r k when all;go p b when minute>1;", 6);
+        SnowHouse x = Kit.ran("room a;room b;door a b;who p in a;who q in a;who r in b;thing k in a;"
+            + "wipe p when not all;kill p q k when all;take p k when all;kill p r k when all;go p b when minute>1;", 6);
         KIT.due("deeds", x.has(7), 2);
         spare(x, 0, 2, -1);
     }
@@ -183,8 +183,8 @@ public final class Promise29To30Test {
         "room a;room b;door a b;who d in a;who p in a;who v in b;who s in b;thing k in a;take p k when all;"
             + "kill p d k when all;kill p v k when all;go v a when minute=2;",
         "room a;room b;room c;door a b;door b c;who p in a;who q in c;who r in b;who s in b;thing k in a;thing l in c;"
-            + "take p k when all;take q l when all;go p c when has p k;go q a when has q l;kill p q k when alone q or all;"
-            + "kill q p l when all;go r a when minute>2;go s a when minute>2;",
+            + "take p k when all;take q l when all;go p c when has p k;go q a when has q l;"
+            + "kill p q k when alone q or all;kill q p l when all;go r a when minute>2;go s a when minute>2;",
         Promise08To12Test.sevenDeeds()};
 
     /** The evening after one change: of a rule (sort 0), a person (1), a thing (2). */
