@@ -1314,7 +1314,7 @@ public final class SnowHouse {
             places = new int[keep ? MINUTES : 0];
         }
 
-        void begin() {
+        void forget() {
             traceCount = 0;
             Arrays.fill(done, NONE);
         }
@@ -1420,7 +1420,7 @@ public final class SnowHouse {
         void forget() {
             minutes = 0;
             deedCount = 0;
-            diary.begin();
+            diary.forget();
         }
 
         /** Lets an evening go; it breaks off, and is of no use then, with more than so many deeds. */

@@ -59,6 +59,9 @@ public final class FaceTest {
             KIT.due("static, not public: " + inner, Modifier.isStatic(inner.getModifiers())
                 && !Modifier.isPublic(inner.getModifiers()) && !Modifier.isProtected(inner.getModifiers()), true);
             KIT.due("few fields: " + inner, inner.getDeclaredFields().length <= 20, true);
+            for (Method method : inner.getDeclaredMethods()) {
+                KIT.due("no name of a public one inside: " + method, names.contains(method.getName()), false);
+            }
         }
         KIT.due("few classes", type.getDeclaredClasses().length <= 12, true);
     }
